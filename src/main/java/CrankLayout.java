@@ -685,13 +685,9 @@ public final class CrankLayout {
         private int massAgainst(int turn, int lever) {
             int x = Math.floorMod(turn, TURNS);
             int y = Math.floorMod(turn + 9, TURNS);
-            int mass = quotient(-xa, lever * COS_A[x]);
-            if (mass == 0) {
-                mass = quotient(-xb, lever * COS_B[x]);
-            }
-            if (mass == 0) {
-                mass = quotient(-ya, lever * COS_A[y]);
-            }
+            // Each direction has a whole number in x or in y; this tells the only mass to try.
+            int mass = COS_A[x] != 0
+                    ? quotient(-xa, lever * COS_A[x]) : quotient(-ya, lever * COS_A[y]);
             int amount = mass * lever;
             boolean isExact = xa + amount * COS_A[x] == 0 && xb + amount * COS_B[x] == 0
                     && ya + amount * COS_A[y] == 0 && yb + amount * COS_B[y] == 0;

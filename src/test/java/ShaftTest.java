@@ -72,6 +72,15 @@ public final class ShaftTest {
         same.turn(1, false);
         DUE.is("setCylinders to what it is", same.setCylinders(4), 4);
         asAtFirst(same, 4);
+        DUE.is("orders of four at once", same.orders(), 0);
+        same.setCylinders(2);
+        DUE.is("orders of two at once", same.orders(), 1);
+        DUE.is("the second of the two", same.order(0, 1), 1);
+        same.setCylinders(1);
+        DUE.is("orders of one", same.orders(), 1);
+        DUE.is("no second one", same.order(0, 1), BAD_INDEX);
+        same.setCylinders(3);
+        DUE.is("orders of three at once", same.orders(), 0);
     }
 
     private static void promise3() {
