@@ -50,14 +50,14 @@ public final class SlotsTest {
             DUE.is("restore(2)", x.restore(2), BAD_INDEX);
             DUE.is("restore(-1)", x.restore(-1), BAD_INDEX);
             DUE.is("restore of nothing", x.restore(slot), NOT_POSSIBLE);
-            String before = Make.seen(x);
+            String before = Seen.shaft(x);
             DUE.is("save", x.save(slot), 8);
-            DUE.holds("save changes nothing", before.equals(Make.seen(x)));
+            DUE.holds("save changes nothing", before.equals(Seen.shaft(x)));
             DUE.is("the other slot stays empty", x.restore(1 - slot), NOT_POSSIBLE);
             changeAll(x);
-            DUE.holds("all is changed", !before.equals(Make.seen(x)));
+            DUE.holds("all is changed", !before.equals(Seen.shaft(x)));
             DUE.is("restore", x.restore(slot), 8);
-            DUE.holds("all is back", before.equals(Make.seen(x)));
+            DUE.holds("all is back", before.equals(Seen.shaft(x)));
             DUE.is("the strokes are back", x.setStrokes(4), 4);
         }
         CrankLayout two = Make.shaft(0, 6);
@@ -101,18 +101,18 @@ public final class SlotsTest {
 
     private static void slotKeepsWhatItHas() {
         CrankLayout x = rich();
-        String before = Make.seen(x);
+        String before = Seen.shaft(x);
         x.save(1);
         changeAll(x);
         x.restore(1);
         changeAll(x);
         x.restore(1);
-        DUE.holds("a slot is not changed by a restored shaft", before.equals(Make.seen(x)));
+        DUE.holds("a slot is not changed by a restored shaft", before.equals(Seen.shaft(x)));
         x.setMass(0, 3);
         x.setWeight(7, 7, 3);
         x.turn(0, false);
         x.restore(1);
-        DUE.holds("nor are its rows", before.equals(Make.seen(x)));
+        DUE.holds("nor are its rows", before.equals(Seen.shaft(x)));
     }
 
     private static void promise31() {

@@ -12,6 +12,21 @@ final class Make {
         return x;
     }
 
+    static CrankLayout twoStrokes(int... turns) {
+        CrankLayout x = shaft(turns);
+        x.setStrokes(2);
+        return x;
+    }
+
+    /** A shaft on which each cylinder can fire in the slot that is given for it. */
+    static CrankLayout firing(int strokes, int... slots) {
+        int[] turns = new int[slots.length];
+        for (int i = 0; i < slots.length; i++) {
+            turns[i] = (24 - slots[i]) % 12;
+        }
+        return strokes == 2 ? twoStrokes(turns) : shaft(turns);
+    }
+
     /** Four in line: order 0 is 0 1 3 2, order 1 is 0 2 3 1. */
     static CrankLayout four() {
         return shaft(0, 6, 6, 0);
@@ -22,43 +37,61 @@ final class Make {
         return shaft(0, 9, 3, 6, 6, 3, 9, 0);
     }
 
+    /** One cylinder, in slot 11 or 23, which is chosen and off. */
+    static CrankLayout one() {
+        CrankLayout x = shaft(1);
+        x.choose(0);
+        x.turn(0, false);
+        type(x, "1");
+        x.save(1);
+        return x;
+    }
+
+    /**
+     * Everything there: eight cylinders, eight weights, both slots, a text that tells order 7;
+     * order 5, which is 0 6 3 5 7 1 4 2, is chosen, and the cylinders 2 and 6 are off.
+     */
+    static CrankLayout full() {
+        CrankLayout x = twoStrokes(0, 4, 8);
+        x.choose(0);
+        x.turn(1, false);
+        x.setWeight(0, 6, 30);
+        x.save(0);
+        x.setWeight(0, 6, 0);
+        x.setCylinders(5);
+        x.setMass(4, 99);
+        x.save(1);
+        x.setStrokes(4);
+        int[] turns = {0, 9, 3, 6, 6, 3, 9, 0};
+        x.setCylinders(8);
+        for (int i = 0; i < 8; i++) {
+            x.setThrow(i, turns[i]);
+            x.setMass(i, 11 * i);
+            x.setPlace(i, -99 + 25 * i);
+        }
+        eightWeights(x);
+        x.choose(5);
+        x.turn(2, false);
+        x.turn(6, false);
+        type(x, "5-6-8-2-4-3-1-7");
+        return x;
+    }
+
+    /** Weights 0 to 7 in this order, set in another one. */
+    static void eightWeights(CrankLayout x) {
+        x.setWeight(3, 7, 7);
+        x.setWeight(100, 11, 999);
+        x.setWeight(0, 0, 20);
+        x.setWeight(-100, 0, 1);
+        x.setWeight(-1, 11, 300);
+        x.setWeight(0, 6, 5);
+        x.setWeight(100, 10, 40);
+        x.setWeight(-100, 5, 6);
+    }
+
     static void type(CrankLayout x, String text) {
         for (int i = 0; i < text.length(); i++) {
             x.append(text.charAt(i));
         }
-    }
-
-    /** All that can be seen of a layout without a change of it, but for the text's bytes. */
-    static String seen(CrankLayout x) {
-        StringBuilder out = new StringBuilder();
-        for (int i = -1; i < 9; i++) {
-            for (int what = -1; what < 6; what++) {
-                out.append(x.cylinder(i, what)).append(' ');
-                out.append(x.weight(i, what)).append(' ');
-            }
-        }
-        for (int vector = -1; vector < 5; vector++) {
-            for (int part = 0; part < 4; part++) {
-                out.append(x.vector(vector, part > 1, part % 2 == 1)).append(' ');
-            }
-        }
-        out.append(x.balanced()).append(' ').append(x.isMirrored()).append(' ');
-        out.append(x.counterWeight()).append(' ').append(x.counterPair(0, 10)).append(' ');
-        out.append(x.orders()).append(' ').append(x.bestOrder()).append(' ');
-        for (int order = -1; order < 9; order++) {
-            for (int place = -1; place < 9; place++) {
-                out.append(x.order(order, place)).append(' ');
-            }
-            out.append(x.orderCost(order, 0)).append(' ').append(x.orderCost(order, 1)).append(' ');
-        }
-        out.append(x.longestGap()).append(' ').append(x.bestOff()).append(' ');
-        for (int bearing = -1; bearing < 10; bearing++) {
-            for (int slot = -1; slot < 25; slot++) {
-                out.append(x.load(bearing, slot)).append(' ');
-            }
-            out.append(x.peak(bearing)).append(' ');
-        }
-        out.append(x.faultPosition()).append(' ').append(x.find()).append(' ');
-        return out.append(x.checksum()).toString();
     }
 }
