@@ -718,25 +718,25 @@ public final class CrankLayout {
             if (cylinders >= 1 && slots % cylinders == 0) {
                 step = slots / cylinders;
                 path[0] = 0;
-                extend(shaft, 1, 1);
+                extend(this, shaft, 1, 1);
             }
         }
 
         /**
          * Tries the cylinders for a place of the order, the lower ones first, so that the orders
          * are found by their numbers. Cylinder 0 stays in its lower slot: in the higher one it
-         * gives the same orders again.
+         * gives the same orders again. Static, for no other method may call itself.
          */
-        private void extend(Shaft shaft, int place, int used) {
-            if (place >= cylinders) {
-                enter(shaft);
+        private static void extend(Firings firings, Shaft shaft, int place, int used) {
+            if (place >= firings.cylinders) {
+                firings.enter(shaft);
                 return;
             }
-            int due = (shaft.lowSlot(0) + place * step) % TURNS;
-            for (int cylinder = 1; cylinder < cylinders; cylinder++) {
+            int due = (shaft.lowSlot(0) + place * firings.step) % TURNS;
+            for (int cylinder = 1; cylinder < firings.cylinders; cylinder++) {
                 if ((used >> cylinder & 1) == 0 && shaft.lowSlot(cylinder) == due) {
-                    path[place] = cylinder;
-                    extend(shaft, place + 1, used | 1 << cylinder);
+                    firings.path[place] = cylinder;
+                    extend(firings, shaft, place + 1, used | 1 << cylinder);
                 }
             }
         }
